@@ -262,6 +262,16 @@ public final class PromisesTest {
     due("both 4", INDEX, () -> x.use(4, 4));
     x.fold(3, 6, 1, true);
     due("nothing but the chain counts for 3", bits(6), () -> x.kindsOf(3));
+    PaperGuild both = new PaperGuild();
+    for (int model = 0; model < 3; model++) {
+      both.addModel(0, 4);
+      both.fold(model, model, 1, true);
+    }
+    both.use(0, 1);
+    both.use(0, 2);
+    due("two at once", bits(0, 1, 2), () -> both.kindsOf(0));
+    due("the first of two, again", false, () -> both.use(0, 1));
+    due("the second of two, again", false, () -> both.use(0, 2));
     PaperGuild y = new PaperGuild();
     for (int model = 0; model < 8; model++) {
       y.addModel(0, 2);
@@ -412,6 +422,18 @@ public final class PromisesTest {
       due("placeOf beyond " + c, c == 0 ? 3 : 4 - c, () -> y.placeOf(0, c));
       promise = "15";
       due("isTurned beyond " + c, c > 0, () -> y.isTurned(0, c));
+    }
+    promise = "15";
+    due("isTurned, asked behind another cell", true, () -> x.isTurned(0, 2));
+    due("isTurned, asked behind another cell", false, () -> x.isTurned(0, 1));
+    promise = "14";
+    PaperGuild again = guildWith(5);
+    again.fold(0, 0, 1, true);
+    again.fold(0, 0, 1, false);
+    int[] placesAgain = {2, 2, 2, 1, 0};
+    for (int cell = 0; cell < 5; cell++) {
+      int c = cell;
+      due("placeOf behind a second fold " + c, placesAgain[c], () -> again.placeOf(0, c));
     }
     for (int cell : new int[] {-1, 6, LOW, HIGH}) {
       promise = "14";
@@ -586,6 +608,11 @@ public final class PromisesTest {
     back.addModel(3, 4);
     back.use(2, 1);
     back.use(1, 0);
+    PaperGuild first = new PaperGuild();
+    first.addModel(3, 4);
+    first.addModel(4, 4);
+    first.use(0, 1);
+    due("a later model used by the first", 1, () -> first.credit(4));
     due("a way through another author back to the own", 1, () -> back.credit(3));
     due("of the one between", 1, () -> back.credit(4));
   }
@@ -617,6 +644,15 @@ public final class PromisesTest {
     due("longest roll, all lengths", bigWays(200, 20), () -> x.ways());
     promise = "24";
     due("longest roll, all lengths", 0, () -> x.leastRest());
+    PaperGuild y = new PaperGuild();
+    y.setRoll(30, bits(6));
+    due("leastRest asked first", 2, () -> y.leastRest());
+    y.setRoll(6, bits(6));
+    due("shorter than each length", 6, () -> y.leastRest());
+    promise = "22";
+    PaperGuild z = new PaperGuild();
+    z.setRoll(1, bits(1));
+    due("a length above the roll", -1, () -> z.fewestPieces());
     promise = "23";
     x.setRoll(3, bits(0));
     due("a shorter roll behind a longer one", 1, () -> x.ways());
