@@ -438,21 +438,24 @@ public final class PaperGuild {
     }
 
     private void copyUpwards(int place) {
-      int height = heightAt(place);
-      for (int at = 0; at < height; at++) {
-        copyCell(place, at);
+      if (isPlace(place)) {
+        for (int at = starts[place]; at < starts[place + 1]; at++) {
+          copyCell(at);
+        }
       }
     }
 
     private void copyDownwards(int place) {
-      for (int at = heightAt(place) - 1; at >= 0; at--) {
-        copyCell(place, at);
+      if (isPlace(place)) {
+        for (int at = starts[place + 1] - 1; at >= starts[place]; at--) {
+          copyCell(at);
+        }
       }
     }
 
-    private void copyCell(int place, int height) {
-      if (filled < nextCells.length) {
-        nextCells[filled] = cellIn(place, height);
+    private void copyCell(int at) {
+      if (at >= 0 && at < cells.length && filled < nextCells.length) {
+        nextCells[filled] = cells[at];
         filled++;
       }
     }

@@ -1,65 +1,5 @@
 /** What the document says, promise by promise: ordinary inputs, the edges that it names, and wrong inputs. */
-public final class PromisesTest {
-  private static final String INDEX = "IndexOutOfBoundsException";
-  private static final String ARGUMENT = "IllegalArgumentException";
-  private static final String STATE = "IllegalStateException";
-  private static final int LOW = Integer.MIN_VALUE;
-  private static final int HIGH = Integer.MAX_VALUE;
-
-  private static int wrong = 0;
-  private static String promise = "";
-
-  private interface Call {
-    Object answer();
-  }
-
-  private static String said(Call call) {
-    try {
-      return String.valueOf(call.answer());
-    } catch (RuntimeException e) {
-      return e.getClass().getSimpleName();
-    }
-  }
-
-  private static void due(String what, Object want, Call call) {
-    String got = said(call);
-    if (!got.equals(String.valueOf(want))) {
-      wrong++;
-      System.out.println("promise " + promise + ": " + what + " answered " + got + ", due is " + want);
-    }
-  }
-
-  private static int bits(int... numbers) {
-    int bits = 0;
-    for (int number : numbers) {
-      bits |= 1 << number;
-    }
-    return bits;
-  }
-
-  /** Places from 0 on, parted by |, the cells of each from the lowest up. */
-  private static String table(PaperGuild x, int model) {
-    StringBuilder text = new StringBuilder();
-    for (int place = 0; place < x.places(model); place++) {
-      text.append(place == 0 ? "" : "|");
-      for (int height = 0; ; height++) {
-        try {
-          text.append(height == 0 ? "" : " ").append(x.cellAt(model, place, height));
-        } catch (IndexOutOfBoundsException e) {
-          text.setLength(height == 0 ? text.length() : text.length() - 1);
-          break;
-        }
-      }
-    }
-    return text.toString();
-  }
-
-  private static PaperGuild guildWith(int length) {
-    PaperGuild x = new PaperGuild();
-    x.addModel(0, length);
-    return x;
-  }
-
+public final class PromisesTest extends Checks {
   private static void aNewObject() {
     PaperGuild x = new PaperGuild();
     due("models", 0, () -> x.models());
@@ -329,7 +269,7 @@ public final class PromisesTest {
       due("steps of a new one", 0, () -> x.steps(m));
     }
     due("models", 8, () -> x.models());
-    promise = "10";
+    subject = "promise 10";
     due("steps -1", INDEX, () -> x.steps(-1));
     due("steps 8", INDEX, () -> x.steps(8));
     due("steps low", INDEX, () -> x.steps(LOW));
@@ -409,24 +349,24 @@ public final class PromisesTest {
     boolean[] turned = {false, false, true, true, false, true};
     for (int cell = 0; cell < 6; cell++) {
       int c = cell;
-      promise = "14";
+      subject = "promise 14";
       due("placeOf " + c, places[c], () -> x.placeOf(0, c));
-      promise = "15";
+      subject = "promise 15";
       due("isTurned " + c, turned[c], () -> x.isTurned(0, c));
     }
     PaperGuild y = guildWith(5);
     y.fold(0, 0, 1, false);
     for (int cell = 0; cell < 5; cell++) {
       int c = cell;
-      promise = "14";
+      subject = "promise 14";
       due("placeOf beyond " + c, c == 0 ? 3 : 4 - c, () -> y.placeOf(0, c));
-      promise = "15";
+      subject = "promise 15";
       due("isTurned beyond " + c, c > 0, () -> y.isTurned(0, c));
     }
-    promise = "15";
+    subject = "promise 15";
     due("isTurned, asked behind another cell", true, () -> x.isTurned(0, 2));
     due("isTurned, asked behind another cell", false, () -> x.isTurned(0, 1));
-    promise = "14";
+    subject = "promise 14";
     PaperGuild again = guildWith(5);
     again.fold(0, 0, 1, true);
     again.fold(0, 0, 1, false);
@@ -436,18 +376,18 @@ public final class PromisesTest {
       due("placeOf behind a second fold " + c, placesAgain[c], () -> again.placeOf(0, c));
     }
     for (int cell : new int[] {-1, 6, LOW, HIGH}) {
-      promise = "14";
+      subject = "promise 14";
       due("placeOf " + cell, INDEX, () -> x.placeOf(0, cell));
-      promise = "15";
+      subject = "promise 15";
       due("isTurned " + cell, INDEX, () -> x.isTurned(0, cell));
     }
     for (int model : new int[] {-1, 1, HIGH}) {
-      promise = "14";
+      subject = "promise 14";
       due("placeOf in " + model, INDEX, () -> x.placeOf(model, 0));
-      promise = "15";
+      subject = "promise 15";
       due("isTurned in " + model, INDEX, () -> x.isTurned(model, 0));
     }
-    promise = "16";
+    subject = "promise 16";
     due("by following", 4, () -> x.layersByFollowing(0));
     due("by following", 2, () -> y.layersByFollowing(0));
     due("by following again", 4, () -> x.layersByFollowing(0));
@@ -630,30 +570,30 @@ public final class PromisesTest {
     for (int[] row : rows) {
       String what = "roll " + row[0] + " by " + Integer.toBinaryString(row[1]);
       x.setRoll(row[0], row[1]);
-      promise = "22";
+      subject = "promise 22";
       due(what, row[2], () -> x.fewestPieces());
-      promise = "23";
+      subject = "promise 23";
       due(what, row[3], () -> x.ways());
-      promise = "24";
+      subject = "promise 24";
       due(what, row[4], () -> x.leastRest());
     }
     x.setRoll(200, 1048575);
-    promise = "22";
+    subject = "promise 22";
     due("longest roll, all lengths", 10, () -> x.fewestPieces());
-    promise = "23";
+    subject = "promise 23";
     due("longest roll, all lengths", bigWays(200, 20), () -> x.ways());
-    promise = "24";
+    subject = "promise 24";
     due("longest roll, all lengths", 0, () -> x.leastRest());
     PaperGuild y = new PaperGuild();
     y.setRoll(30, bits(6));
     due("leastRest asked first", 2, () -> y.leastRest());
     y.setRoll(6, bits(6));
     due("shorter than each length", 6, () -> y.leastRest());
-    promise = "22";
+    subject = "promise 22";
     PaperGuild z = new PaperGuild();
     z.setRoll(1, bits(1));
     due("a length above the roll", -1, () -> z.fewestPieces());
-    promise = "23";
+    subject = "promise 23";
     x.setRoll(3, bits(0));
     due("a shorter roll behind a longer one", 1, () -> x.ways());
   }
@@ -676,35 +616,27 @@ public final class PromisesTest {
     return table[length][longest].mod(java.math.BigInteger.valueOf(1000007)).toString();
   }
 
-  private static void run(String number, Runnable test) {
-    promise = number;
-    test.run();
-  }
-
   public static void main(String[] args) {
-    run("1", PromisesTest::aNewObject);
-    run("2", PromisesTest::setNeeds);
-    run("3", PromisesTest::addModel);
-    run("4", PromisesTest::foldPlaces);
-    run("4", PromisesTest::foldWrongly);
-    run("5", PromisesTest::unfold);
-    run("6", PromisesTest::use);
-    run("7", PromisesTest::setRoll);
-    run("8", PromisesTest::teach);
-    run("9", PromisesTest::modelsAndSteps);
-    run("11", PromisesTest::places);
-    run("12", PromisesTest::layers);
-    run("13", PromisesTest::cellAt);
-    run("14", PromisesTest::following);
-    run("17", PromisesTest::bears);
-    run("18", PromisesTest::kindsOf);
-    run("19", PromisesTest::mayFold);
-    run("20", PromisesTest::lessons);
-    run("21", PromisesTest::credit);
-    run("22", PromisesTest::cutting);
-    System.out.println(wrong == 0 ? "all promises hold" : wrong + " answers are not as due");
-    if (wrong != 0) {
-      System.exit(1);
-    }
+    test("promise 1", PromisesTest::aNewObject);
+    test("promise 2", PromisesTest::setNeeds);
+    test("promise 3", PromisesTest::addModel);
+    test("promise 4", PromisesTest::foldPlaces);
+    test("promise 4", PromisesTest::foldWrongly);
+    test("promise 5", PromisesTest::unfold);
+    test("promise 6", PromisesTest::use);
+    test("promise 7", PromisesTest::setRoll);
+    test("promise 8", PromisesTest::teach);
+    test("promise 9", PromisesTest::modelsAndSteps);
+    test("promise 11", PromisesTest::places);
+    test("promise 12", PromisesTest::layers);
+    test("promise 13", PromisesTest::cellAt);
+    test("promise 14", PromisesTest::following);
+    test("promise 17", PromisesTest::bears);
+    test("promise 18", PromisesTest::kindsOf);
+    test("promise 19", PromisesTest::mayFold);
+    test("promise 20", PromisesTest::lessons);
+    test("promise 21", PromisesTest::credit);
+    test("promise 22", PromisesTest::cutting);
+    finish("all promises hold");
   }
 }
