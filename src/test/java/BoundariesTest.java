@@ -279,7 +279,14 @@ public final class BoundariesTest extends Checks {
     due("the same other by another model", true, () -> x.use(3, 2));
     due("refused, and still not used", ARGUMENT, () -> x.use(2, 0));
     due("refused again", ARGUMENT, () -> x.use(2, 0));
-    due("all that one can use", true, () -> x.use(0, 3) && x.use(0, 4) && x.use(0, 5) && x.use(0, 6) && x.use(0, 7));
+    for (int other = 3; other < 8; other++) {
+      int o = other;
+      due("one more, " + o, true, () -> x.use(0, o));
+    }
+    for (int other = 1; other < 8; other++) {
+      int o = other;
+      due("all that one can use, " + o, false, () -> x.use(0, o));
+    }
   }
 
   private static void useRoundByLongWays() {

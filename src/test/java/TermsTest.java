@@ -399,7 +399,11 @@ public final class TermsTest extends Checks {
         return back.mayFold(1, m);
       });
     }
-    due("where it is folded they do not count", 3, () -> x.layers(0) + x.steps(0));
+    due("where it is folded they do not count", 1, () -> x.steps(0));
+    x.fold(6, 7, 1, true);
+    due("a kind of two models counts as well", bits(6, 7), () -> x.kindsOf(6));
+    due("a kind of two models is taught once", 2, () -> x.lessons(0, 6));
+    due("a kind of two models by a longer way", bits(5, 6, 7), () -> x.kindsOf(5));
   }
 
   private static void modelsNotRound() {
@@ -448,6 +452,10 @@ public final class TermsTest extends Checks {
       int a = author;
       due("by way of others, author " + a, 7 - a, () -> row.credit(a));
     }
+    PaperGuild early = rowOfEight();
+    early.use(0, 7);
+    due("the first model uses the last", 1, () -> early.credit(7));
+    due("the last uses none", 0, () -> early.credit(0));
     PaperGuild own = new PaperGuild();
     own.addModel(3, 2);
     own.addModel(4, 2);
