@@ -2,6 +2,10 @@
 public final class BoundariesTest extends Checks {
   private static final int EVERY_LENGTH = 1048575;
 
+  private interface AskOfModel {
+    Object answer(PaperGuild guild, int model);
+  }
+
   // ---- promise 1
 
   private static void newNoModels() {
@@ -429,12 +433,11 @@ public final class BoundariesTest extends Checks {
 
   // ---- promises 12 and 16
 
-  private static void countLayers() {
+  private static void countLayers(AskOfModel layers) {
     PaperGuild x = guildWith(32);
     for (int step = 0; step <= 10; step++) {
       int s = step;
-      due("rolled up from the left by " + s, s + 1, () -> x.layers(0));
-      due("by following", s + 1, () -> x.layersByFollowing(0));
+      due("rolled up from the left by " + s, s + 1, () -> layers.answer(x, 0));
       if (s < 10) {
         x.fold(0, 0, 1, true);
       }
@@ -443,13 +446,12 @@ public final class BoundariesTest extends Checks {
     for (int places = 16; places >= 1; places /= 2) {
       y.fold(0, 0, places, places % 3 == 1);
     }
-    due("all on one", 32, () -> y.layers(0));
-    due("all on one, by following", 32, () -> y.layersByFollowing(0));
-    due("another model, by following", 11, () -> x.layersByFollowing(0));
-    due("the first again, by following", 32, () -> y.layersByFollowing(0));
+    due("all on one", 32, () -> layers.answer(y, 0));
+    due("another guild's", 11, () -> layers.answer(x, 0));
+    due("the first again", 32, () -> layers.answer(y, 0));
     y.addModel(0, 2);
-    due("the shortest", 1, () -> y.layers(1));
-    due("the shortest, behind the greatest, by following", 1, () -> y.layersByFollowing(1));
+    due("the shortest, behind the greatest", 1, () -> layers.answer(y, 1));
+    due("no such model", INDEX, () -> layers.answer(y, 2));
   }
 
   // ---- promise 13
@@ -496,23 +498,40 @@ public final class BoundariesTest extends Checks {
 
   // ---- promises 14 and 15
 
-  private static void cellsInRange() {
-    for (int length : new int[] {2, 17, 32}) {
-      PaperGuild x = guildWith(length);
-      x.fold(0, 0, 1, true);
-      for (int cell : new int[] {LOW, -1, length, length + 1, 64, HIGH}) {
-        due("placeOf " + cell + " of " + length, INDEX, () -> x.placeOf(0, cell));
-        due("isTurned " + cell + " of " + length, INDEX, () -> x.isTurned(0, cell));
+  private static final int[] LENGTHS = {2, 17, 32};
+
+  private static int[] noCellsOf(int length) {
+    return new int[] {LOW, -1, length, length + 1, 64, HIGH};
+  }
+
+  private static PaperGuild foldedOnce(int length, int place, boolean fromLeft) {
+    PaperGuild x = guildWith(length);
+    x.fold(0, 0, place, fromLeft);
+    return x;
+  }
+
+  private static void placesOfCellsInRange() {
+    for (int length : LENGTHS) {
+      PaperGuild x = foldedOnce(length, 1, true);
+      for (int cell : noCellsOf(length)) {
+        due("cell " + cell + " of " + length, INDEX, () -> x.placeOf(0, cell));
       }
       due("the first of " + length, 0, () -> x.placeOf(0, 0));
       due("the last of " + length, length - 2, () -> x.placeOf(0, length - 1));
-      due("the first is turned", true, () -> x.isTurned(0, 0));
-      due("the last is not", false, () -> x.isTurned(0, length - 1));
     }
-    PaperGuild narrow = guildWith(8);
-    narrow.fold(0, 0, 4, false);
-    due("a cell above the number of places", 0, () -> narrow.placeOf(0, 7));
-    due("it is turned", true, () -> narrow.isTurned(0, 7));
+    due("a cell above the number of places", 0, () -> foldedOnce(8, 4, false).placeOf(0, 7));
+  }
+
+  private static void turnsOfCellsInRange() {
+    for (int length : LENGTHS) {
+      PaperGuild x = foldedOnce(length, 1, true);
+      for (int cell : noCellsOf(length)) {
+        due("cell " + cell + " of " + length, INDEX, () -> x.isTurned(0, cell));
+      }
+      due("the first of " + length, true, () -> x.isTurned(0, 0));
+      due("the last of " + length, false, () -> x.isTurned(0, length - 1));
+    }
+    due("a cell above the number of places", true, () -> foldedOnce(8, 4, false).isTurned(0, 7));
   }
 
   private static void followedAsItLies() {
@@ -601,27 +620,46 @@ public final class BoundariesTest extends Checks {
   private static void examOfNoKinds() {
     PaperGuild x = guildWith(2);
     due("nothing counts", true, () -> x.mayFold(5, 0));
-    due("no lessons", 0, () -> x.lessons(5, 0));
+    x.setNeeds(0, bits(1));
+    due("needs alone do not count", true, () -> x.mayFold(5, 0));
+  }
+
+  private static void lessonsOfNoKinds() {
+    PaperGuild x = guildWith(2);
+    due("nothing counts", 0, () -> x.lessons(5, 0));
     x.setNeeds(0, bits(1));
     due("needs alone do not count", 0, () -> x.lessons(5, 0));
   }
 
+  /** A model of all kinds, and pupil 3, who knows all but one. */
+  private static PaperGuild schoolLacking(int missing) {
+    PaperGuild x = guildWith(32);
+    for (int kind = 0; kind < 8; kind++) {
+      x.fold(0, kind, 1, true);
+      if (kind != missing) {
+        x.teach(3, kind);
+      }
+    }
+    return x;
+  }
+
   private static void examOfAllKinds() {
     for (int missing = 0; missing < 8; missing++) {
-      int k = missing;
-      PaperGuild x = guildWith(32);
-      for (int kind = 0; kind < 8; kind++) {
-        x.fold(0, kind, 1, true);
-        if (kind != k) {
-          x.teach(3, kind);
-        }
-      }
-      due("all but " + k, false, () -> x.mayFold(3, 0));
-      due("one lesson", 1, () -> x.lessons(3, 0));
-      x.teach(3, k);
+      PaperGuild x = schoolLacking(missing);
+      due("all but " + missing, false, () -> x.mayFold(3, 0));
+      x.teach(3, missing);
       due("all", true, () -> x.mayFold(3, 0));
-      due("no lesson", 0, () -> x.lessons(3, 0));
-      due("eight for another", 8, () -> x.lessons(2, 0));
+      due("another pupil", false, () -> x.mayFold(2, 0));
+    }
+  }
+
+  private static void lessonsOfAllKinds() {
+    for (int missing = 0; missing < 8; missing++) {
+      PaperGuild x = schoolLacking(missing);
+      due("all but " + missing, 1, () -> x.lessons(3, 0));
+      x.teach(3, missing);
+      due("all", 0, () -> x.lessons(3, 0));
+      due("another pupil", 8, () -> x.lessons(2, 0));
     }
   }
 
@@ -683,57 +721,53 @@ public final class BoundariesTest extends Checks {
 
   // ---- promises 22 to 24
 
-  private static void cut(int length, int set, int fewest, int ways, int rest) {
-    PaperGuild x = new PaperGuild();
-    x.setRoll(length, set);
-    String what = length + " by " + Integer.toBinaryString(set);
-    due("fewestPieces of " + what, fewest, () -> x.fewestPieces());
-    due("ways of " + what, ways, () -> x.ways());
-    due("leastRest of " + what, rest, () -> x.leastRest());
-    due("fewestPieces again of " + what, fewest, () -> x.fewestPieces());
-  }
+  /** Each row: the length of the roll, the set, and what fewestPieces, ways and leastRest answer. */
+  private static final int[][] NO_ROLL = {
+    {0, 0, 0, 1, 0}, {0, 1, 0, 1, 0}, {0, EVERY_LENGTH, 0, 1, 0},
+  };
+  private static final int[][] NOTHING_IN_DEMAND = {
+    {1, 0, -1, 0, 1}, {200, 0, -1, 0, 200},
+  };
+  private static final int[][] SOME_LENGTHS = {
+    {6, lengths(1, 3, 4), 2, 4, 0}, {30, lengths(1, 15, 20), 2, 4, 0}, {40, lengths(7, 13, 20), 2, 3, 0},
+    {3, lengths(1, 2), 2, 2, 0}, {4, lengths(1, 2, 3, 4), 1, 5, 0}, {20, EVERY_LENGTH, 1, 627, 0},
+    {21, EVERY_LENGTH, 2, 791, 0}, {200, lengths(1), 200, 1, 0}, {200, lengths(20), 10, 1, 0},
+  };
+  private static final int[][] NEVER_WITHOUT_A_REST = {
+    {23, lengths(5, 7), -1, 0, 1}, {1, lengths(2, 20), -1, 0, 1}, {200, lengths(19), -1, 0, 10},
+    {199, lengths(2, 4, 6, 8, 10, 12, 14, 16, 18, 20), -1, 0, 1}, {19, lengths(20), -1, 0, 19},
+  };
 
-  private static void cutNoRoll() {
-    cut(0, 0, 0, 1, 0);
-    cut(0, 1, 0, 1, 0);
-    cut(0, EVERY_LENGTH, 0, 1, 0);
-  }
-
-  private static void cutNothingInDemand() {
-    cut(1, 0, -1, 0, 1);
-    cut(200, 0, -1, 0, 200);
-  }
-
-  private static void cutIntoOneLength() {
+  private static int[][] oneLengthInDemand() {
+    int[][] rows = new int[120][];
+    int filled = 0;
     for (int piece = 1; piece <= 20; piece++) {
       for (int length : new int[] {1, piece - 1, piece, piece + 1, 199, 200}) {
         int rest = length % piece;
-        cut(length, lengths(piece), rest == 0 ? length / piece : -1, rest == 0 ? 1 : 0, rest);
+        rows[filled] = new int[] {length, lengths(piece), rest == 0 ? length / piece : -1, rest == 0 ? 1 : 0, rest};
+        filled++;
       }
+    }
+    return rows;
+  }
+
+  private static void cut(int[][] rows, int column, Change ask) {
+    PaperGuild again = new PaperGuild();
+    for (int[] row : rows) {
+      PaperGuild x = new PaperGuild();
+      x.setRoll(row[0], row[1]);
+      again.setRoll(row[0], row[1]);
+      String what = row[0] + " by " + Integer.toBinaryString(row[1]);
+      due(what, row[column], () -> ask.answer(x));
+      due(what + ", asked twice", row[column], () -> ask.answer(x));
+      due(what + ", behind other rolls", row[column], () -> ask.answer(again));
     }
   }
 
-  private static void cutIntoFewest() {
-    cut(6, lengths(1, 3, 4), 2, 4, 0);
-    cut(30, lengths(1, 15, 20), 2, 4, 0);
-    int butTwenty = EVERY_LENGTH - lengths(20);
-    cut(200, butTwenty, 11, (int) (allWays(200, butTwenty, 20) % 1000007), 0);
-    cut(40, lengths(7, 13, 20), 2, 3, 0);
-  }
-
-  private static void cutIntoNone() {
-    cut(23, lengths(5, 7), -1, 0, 1);
-    cut(1, lengths(2, 20), -1, 0, 1);
-    cut(199, lengths(2, 4, 6, 8, 10, 12, 14, 16, 18, 20), -1, 0, 1);
-    cut(200, lengths(19), -1, 0, 10);
-    cut(19, lengths(20), -1, 0, 19);
-  }
-
-  private static void waysLeaveOrderAside() {
-    cut(3, lengths(1, 2), 2, 2, 0);
-    cut(4, lengths(1, 2, 3, 4), 1, 5, 0);
-    cut(20, EVERY_LENGTH, 1, 627, 0);
-    cut(21, EVERY_LENGTH, 2, 791, 0);
+  private static void cutEach(String words, int[][] rows) {
+    test("22: " + words, () -> cut(rows, 2, x -> x.fewestPieces()));
+    test("23: " + words, () -> cut(rows, 3, x -> x.ways()));
+    test("24: " + words, () -> cut(rows, 4, x -> x.leastRest()));
   }
 
   private static void waysModulo() {
@@ -747,8 +781,6 @@ public final class BoundariesTest extends Checks {
     PaperGuild x = new PaperGuild();
     x.setRoll(length, set);
     due("modulo 1000007", want, () -> x.ways());
-    due("a cut there is", true, () -> x.fewestPieces() > 0);
-    due("without a rest", 0, () -> x.leastRest());
   }
 
   private static long allWays(int length, int set, int longest) {
@@ -766,14 +798,22 @@ public final class BoundariesTest extends Checks {
   private static void longestRoll() {
     PaperGuild x = new PaperGuild();
     x.setRoll(200, EVERY_LENGTH);
-    due("all ways of the longest roll, modulo", allWays(200, EVERY_LENGTH, 20) % 1000007, () -> x.ways());
     due("fewestPieces", 10, () -> x.fewestPieces());
     due("leastRest", 0, () -> x.leastRest());
     x.setRoll(199, EVERY_LENGTH);
     due("one less", 10, () -> x.fewestPieces());
-    due("a shorter roll behind a longer one", allWays(199, EVERY_LENGTH, 20) % 1000007, () -> x.ways());
+    x.setRoll(200, EVERY_LENGTH - lengths(20));
+    due("without the longest piece", 11, () -> x.fewestPieces());
+  }
+
+  private static void waysOfTheLongestRoll() {
+    PaperGuild x = new PaperGuild();
+    x.setRoll(200, EVERY_LENGTH);
+    due("the longest", allWays(200, EVERY_LENGTH, 20) % 1000007, () -> x.ways());
+    x.setRoll(199, EVERY_LENGTH);
+    due("a shorter one behind it", allWays(199, EVERY_LENGTH, 20) % 1000007, () -> x.ways());
     x.setRoll(0, EVERY_LENGTH);
-    due("none behind the longest", 1, () -> x.ways());
+    due("none behind it", 1, () -> x.ways());
   }
 
   private static void leastRestAsked() {
@@ -825,27 +865,31 @@ public final class BoundariesTest extends Checks {
     test("9: how many models there are", BoundariesTest::countModels);
     test("10: how many steps a model has", BoundariesTest::countSteps);
     test("11: the number of places behind all steps", BoundariesTest::countPlaces);
-    test("12, 16: the layers, and by following each cell", BoundariesTest::countLayers);
+    test("12: the layers of a model", () -> countLayers((x, model) -> x.layers(model)));
+    test("16: the layers, by following each cell", () -> countLayers((x, model) -> x.layersByFollowing(model)));
     test("13: no such place, or not so many cells", BoundariesTest::cellsAtTheEdges);
     test("13: as many cells at a place as there are", BoundariesTest::thirtyTwoCellsAtOnePlace);
-    test("14, 15: cell, 0 to the length less 1", BoundariesTest::cellsInRange);
+    test("14: cell, 0 to the length less 1", BoundariesTest::placesOfCellsInRange);
+    test("15: cell, 0 to the length less 1", BoundariesTest::turnsOfCellsInRange);
     test("14: found by following it alone", BoundariesTest::followedAsItLies);
     test("15: whether it was turned an odd number of times", BoundariesTest::turnedAnOddNumber);
     test("17: age, 0 to 20", BoundariesTest::agesInRange);
     test("18: the kinds that count, none to all", BoundariesTest::kindsFromNoneToAll);
-    test("19, 20: no kinds", BoundariesTest::examOfNoKinds);
-    test("19, 20: all kinds", BoundariesTest::examOfAllKinds);
+    test("19: no kinds", BoundariesTest::examOfNoKinds);
+    test("19: all kinds", BoundariesTest::examOfAllKinds);
+    test("20: no kinds", BoundariesTest::lessonsOfNoKinds);
+    test("20: all kinds", BoundariesTest::lessonsOfAllKinds);
     test("20: the least number of lessons, by way of needs", BoundariesTest::lessonsByWayOfNeeds);
     test("20: the least number of lessons, behind what is known", BoundariesTest::lessonsBehindWhatIsKnown);
     test("21: the credit, none to seven", BoundariesTest::creditFromNoneToSeven);
-    test("22 to 24: no roll", BoundariesTest::cutNoRoll);
-    test("22 to 24: nothing in demand", BoundariesTest::cutNothingInDemand);
-    test("22 to 24: one length in demand", BoundariesTest::cutIntoOneLength);
-    test("22: the fewest pieces", BoundariesTest::cutIntoFewest);
-    test("22: -1 if it cannot be", BoundariesTest::cutIntoNone);
-    test("23: the order of pieces left aside", BoundariesTest::waysLeaveOrderAside);
+    cutEach("no roll", NO_ROLL);
+    cutEach("nothing in demand", NOTHING_IN_DEMAND);
+    cutEach("one length in demand", oneLengthInDemand());
+    cutEach("some lengths in demand", SOME_LENGTHS);
+    cutEach("it cannot be cut without a rest", NEVER_WITHOUT_A_REST);
+    test("22: the fewest pieces of the longest roll", BoundariesTest::longestRoll);
     test("23: modulo 1000007", BoundariesTest::waysModulo);
-    test("22 to 24: the longest roll", BoundariesTest::longestRoll);
+    test("23: the ways of the longest roll", BoundariesTest::waysOfTheLongestRoll);
     test("24: the least rest", BoundariesTest::leastRestAsked);
     finish("the promises hold at their boundaries");
   }

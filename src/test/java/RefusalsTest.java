@@ -3,6 +3,11 @@ public final class RefusalsTest extends Checks {
   /** Beside the nearest numbers that there are not, those that would meet a right one again if bits wrapped round. */
   private static final int[] FAR = {LOW, LOW + 1, -256, -33, -32, -31, -2, -1, 32, 33, 64, 256, 1 << 30, HIGH - 1, HIGH};
 
+  private static final String[] NAMES_OF_A_MODEL = {
+    "4, fold", "5, unfold", "6, use", "6, use by another", "6, use by itself", "10, steps", "11, places", "12, layers",
+    "13, cellAt", "14, placeOf", "15, isTurned", "16, layersByFollowing", "17, bears", "18, kindsOf",
+    "19, mayFold", "20, lessons",
+  };
   private static final CallOf[] OF_A_MODEL = {
     (x, n) -> x.fold(n, 0, 1, true), (x, n) -> x.unfold(n), (x, n) -> x.use(n, 0), (x, n) -> x.use(0, n),
     (x, n) -> x.use(n, n), (x, n) -> x.steps(n), (x, n) -> x.places(n), (x, n) -> x.layers(n),
@@ -10,12 +15,15 @@ public final class RefusalsTest extends Checks {
     (x, n) -> x.layersByFollowing(n), (x, n) -> x.bears(n, 0), (x, n) -> x.kindsOf(n),
     (x, n) -> x.mayFold(0, n), (x, n) -> x.lessons(0, n),
   };
+  private static final String[] NAMES_OF_A_KIND = {"2, setNeeds", "4, fold", "8, teach"};
   private static final CallOf[] OF_A_KIND = {
     (x, n) -> x.setNeeds(n, 0), (x, n) -> x.fold(0, n, 1, true), (x, n) -> x.teach(0, n),
   };
+  private static final String[] NAMES_OF_AN_AUTHOR = {"3, addModel", "21, credit"};
   private static final CallOf[] OF_AN_AUTHOR = {
     (x, n) -> x.addModel(n, 2), (x, n) -> x.credit(n),
   };
+  private static final String[] NAMES_OF_A_PUPIL = {"8, teach", "19, mayFold", "20, lessons"};
   private static final CallOf[] OF_A_PUPIL = {
     (x, n) -> x.teach(n, 0), (x, n) -> x.mayFold(n, 0), (x, n) -> x.lessons(n, 0),
   };
@@ -221,28 +229,38 @@ public final class RefusalsTest extends Checks {
     first("one place is left, and a kind is missing", narrow, ARGUMENT, g -> g.fold(0, 1, 1, true));
   }
 
-  private static void noSuch(String what, CallOf[] calls, PaperGuild x, int firstAbove) {
-    for (int call = 0; call < calls.length; call++) {
-      CallOf asked = calls[call];
-      for (int far : FAR) {
-        due(what + " " + far + ", call " + call, INDEX, () -> asked.answer(x, far));
-      }
-      due(what + " " + firstAbove + ", call " + call, INDEX, () -> asked.answer(x, firstAbove));
+  private static void noSuch(CallOf call, PaperGuild x, int firstAbove) {
+    for (int far : FAR) {
+      due("number " + far, INDEX, () -> call.answer(x, far));
     }
+    due("number " + firstAbove, INDEX, () -> call.answer(x, firstAbove));
   }
 
-  private static void noSuchModel() {
-    noSuch("model of none", OF_A_MODEL, new PaperGuild(), 0);
-    noSuch("model of one", OF_A_MODEL, guildWith(4), 1);
-    noSuch("model of three", OF_A_MODEL, furnished(), 3);
-    noSuch("model of eight", OF_A_MODEL, withEightModels(), 8);
+  private static void noSuchModel(CallOf call) {
+    noSuch(call, new PaperGuild(), 0);
+    noSuch(call, guildWith(4), 1);
+    noSuch(call, furnished(), 3);
+    noSuch(call, withEightModels(), 8);
   }
 
-  private static void noSuchKindAuthorPupil() {
-    noSuch("kind", OF_A_KIND, furnished(), 8);
-    noSuch("author", OF_AN_AUTHOR, furnished(), 10);
-    noSuch("author of eight models", OF_AN_AUTHOR, withEightModels(), 10);
-    noSuch("pupil", OF_A_PUPIL, furnished(), 6);
+  private static void noSuchOneInEachCall() {
+    String words = ": IndexOutOfBoundsException if there is no such ";
+    for (int call = 0; call < OF_A_MODEL.length; call++) {
+      CallOf asked = OF_A_MODEL[call];
+      test(NAMES_OF_A_MODEL[call] + words + "model", () -> noSuchModel(asked));
+    }
+    for (int call = 0; call < OF_A_KIND.length; call++) {
+      CallOf asked = OF_A_KIND[call];
+      test(NAMES_OF_A_KIND[call] + words + "kind", () -> noSuch(asked, furnished(), 8));
+    }
+    for (int call = 0; call < OF_AN_AUTHOR.length; call++) {
+      CallOf asked = OF_AN_AUTHOR[call];
+      test(NAMES_OF_AN_AUTHOR[call] + words + "author", () -> noSuch(asked, furnished(), 10));
+    }
+    for (int call = 0; call < OF_A_PUPIL.length; call++) {
+      CallOf asked = OF_A_PUPIL[call];
+      test(NAMES_OF_A_PUPIL[call] + words + "pupil", () -> noSuch(asked, furnished(), 6));
+    }
   }
 
   private static void lastThatThereIs() {
@@ -278,8 +296,7 @@ public final class RefusalsTest extends Checks {
     test("Nothing from here on changes anything", RefusalsTest::askingChangesNothing);
     test("The one that is named first is thrown", RefusalsTest::firstNamedOfKindsAndModels);
     test("The one that is named first is thrown: fold", RefusalsTest::firstNamedOfFold);
-    test("IndexOutOfBoundsException if there is no such model", RefusalsTest::noSuchModel);
-    test("IndexOutOfBoundsException if there is no such kind, author, pupil", RefusalsTest::noSuchKindAuthorPupil);
+    noSuchOneInEachCall();
     test("There is such a one: the last", RefusalsTest::lastThatThereIs);
     finish("what is refused is refused as it is due");
   }

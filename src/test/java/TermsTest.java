@@ -524,14 +524,26 @@ public final class TermsTest extends Checks {
     x.fold(0, 2, 1, true);
     for (int pupil = 0; pupil < 6; pupil++) {
       int p = pupil;
-      due("pupil " + p + " knows nothing at first", 1, () -> x.lessons(p, 0));
       due("lesson of " + p, 1, () -> x.teach(p, 2));
       due("exam of " + p, true, () -> x.mayFold(p, 0));
+      due("no more lessons of " + p, 0, () -> x.lessons(p, 0));
     }
     for (int pupil : new int[] {-1, 6}) {
       due("teach " + pupil, INDEX, () -> x.teach(pupil, 2));
       due("mayFold " + pupil, INDEX, () -> x.mayFold(pupil, 0));
       due("lessons " + pupil, INDEX, () -> x.lessons(pupil, 0));
+    }
+  }
+
+  private static void knowsNoneAtFirst() {
+    PaperGuild x = rowOfEight();
+    for (int pupil = 0; pupil < 6; pupil++) {
+      int p = pupil;
+      for (int kind = 0; kind < 8; kind++) {
+        int k = kind;
+        due("kind " + k + " of " + p, false, () -> x.mayFold(p, k));
+      }
+      due("the first that it knows", 1, () -> x.teach(p, 7 - p));
     }
   }
 
@@ -635,7 +647,8 @@ public final class TermsTest extends Checks {
     test("a set of lengths from 1 to 20", TermsTest::lengthsInDemand);
     test("as many of each as wished", TermsTest::asManyAsWished);
     test("without a rest if the pieces are as long as the roll", TermsTest::withoutARest);
-    test("Pupils are 0 to 5, and know none at first", TermsTest::pupils);
+    test("Pupils are 0 to 5", TermsTest::pupils);
+    test("A pupil knows some kinds, none at first", TermsTest::knowsNoneAtFirst);
     test("if it knows all kinds that this one needs", TermsTest::lessonBehindItsNeeds);
     test("may fold if it knows all kinds that count", TermsTest::mayFoldIfItKnowsAll);
     test("Paper has an age, 0 to 20 years", TermsTest::ageOfPaper);
